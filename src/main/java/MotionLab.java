@@ -194,8 +194,8 @@ public final class MotionLab {
         }
     }
 
-    // A double has more than twice the bits of a float and two besides, so rounding the double's
-    // result once more gives the float nearest to the exact one.
+    // A double has at least twice a float's bits and two more, so rounding the double's result once
+    // more gives the float nearest to the exact one.
     private static long floatResult(int op, long a, long b) {
         switch (op) {
             case 8:
@@ -590,10 +590,11 @@ public final class MotionLab {
             return isInfinite(a) ? a : b;
         }
 
-        // What is shifted out leaves a last bit of 1, which is enough to round rightly later.
+        // What is shifted out leaves a last bit of 1, which is enough to round rightly later; what is
+        // far below the larger number's last bit can't change it.
         private static long lowered(long s, int by) {
             if (by > 62) {
-                return s == 0 ? 0 : 1;
+                return 0;
             }
             long lost = s & ((1L << by) - 1);
             return lost == 0 ? s >>> by : s >>> by | 1;
