@@ -2,6 +2,7 @@
 final class Check {
     private int wrong;
     private int asked;
+    private String sentence = "";
 
     static long bits(double d) {
         return Double.doubleToLongBits(d);
@@ -11,11 +12,16 @@ final class Check {
         return Float.floatToIntBits(f);
     }
 
+    /** The document's words that the next answers are due by; a wrong answer is printed with them. */
+    void sentence(String words) {
+        sentence = "\"" + words + "\": ";
+    }
+
     void due(String call, long got, long want) {
         asked++;
         if (got != want) {
             wrong++;
-            System.out.println(call + " answered " + got + ", due is " + want);
+            System.out.println(sentence + call + " answered " + got + ", due is " + want);
         }
     }
 

@@ -289,15 +289,30 @@ final class Reference {
         if (!in(number, 6) || !in(what, 2)) {
             return 1;
         }
+        double[] all = new double[BODIES];
+        for (int n = 0; n < BODIES; n++) {
+            all[n] = bodyNumber(n, number);
+        }
+        return told(what == 0 ? mean(all) : squares(all));
+    }
+
+    static double mean(double[] all) {
+        double t = 0.0;
+        for (int n = 0; n < all.length; n++) {
+            t = t + (all[n] - t) / (n + 1.0);
+        }
+        return t;
+    }
+
+    static double squares(double[] all) {
         double t = 0.0;
         double q = 0.0;
-        for (int n = 0; n < BODIES; n++) {
-            double it = bodyNumber(n, number);
-            double g = it - t;
+        for (int n = 0; n < all.length; n++) {
+            double g = all[n] - t;
             t = t + g / (n + 1.0);
-            q = q + g * (it - t);
+            q = q + g * (all[n] - t);
         }
-        return told(what == 0 ? t : q);
+        return q;
     }
 
     long horner(int k) {
