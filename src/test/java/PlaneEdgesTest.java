@@ -203,6 +203,7 @@ public final class PlaneEdgesTest {
     private static void springRefusesBodies() {
         CHECK.sentence("spring: REFUSED for other bodies, or one and the same");
         Bench bench = new Bench(CHECK);
+        long[] before = bench.state();
         for (int wrong : Bench.outside(Bench.BODIES)) {
             CHECK.due("spring(" + wrong + ", 0)", bench.addSpring(wrong, 0, 1, 1, 1), MotionLab.REFUSED);
             CHECK.due("spring(7, " + wrong + ")", bench.addSpring(7, wrong, 1, 1, 1), MotionLab.REFUSED);
@@ -211,7 +212,7 @@ public final class PlaneEdgesTest {
         for (int body = 0; body < Bench.BODIES; body++) {
             CHECK.due("spring(" + body + ", " + body + ")", bench.addSpring(body, body, 1, 1, 1), MotionLab.REFUSED);
         }
-        CHECK.due("energy", bench.lab.energy(), 0.0);
+        bench.unchanged("spring of wrong bodies", before);
         CHECK.due("the first spring", bench.addSpring(0, 7, 1, 1, 1), 0);
         CHECK.due("the second", bench.addSpring(7, 0, 1, 1, 1), 1);
         CHECK.due("cut()", bench.lab.cut(), 1);
@@ -223,10 +224,12 @@ public final class PlaneEdgesTest {
         for (int n = 0; n < 10; n++) {
             bench.addSpring(n % 8, (n + 1) % 8, 1, 1, 1);
         }
+        long[] before = bench.state();
         CHECK.due("spring(8, 0)", bench.addSpring(8, 0, 1, 1, 1), MotionLab.REFUSED);
         CHECK.due("spring(0, -1)", bench.addSpring(0, -1, 1, 1, 1), MotionLab.REFUSED);
         CHECK.due("spring(4, 4)", bench.addSpring(4, 4, 1, 1, 1), MotionLab.REFUSED);
-        CHECK.due("spring(4, 5)", bench.addSpring(4, 5, 1, 1, 1), MotionLab.FULL);
+        CHECK.due("spring(4, 5)", bench.addSpring(4, 5, 2, 2, 2), MotionLab.FULL);
+        bench.unchanged("spring that is refused or too many", before);
         CHECK.due("cut()", bench.lab.cut(), 9);
     }
 
@@ -260,7 +263,9 @@ public final class PlaneEdgesTest {
     private static void cutToNone() {
         CHECK.sentence("cut: how many are left. NONE if there is none");
         Bench bench = new Bench(CHECK);
+        long[] before = bench.state();
         CHECK.due("cut() of none", bench.lab.cut(), MotionLab.NONE);
+        bench.unchanged("cut() of none", before);
         for (int n = 0; n < 10; n++) {
             bench.addSpring(0, 1, 1, 1, 1);
         }
@@ -328,6 +333,7 @@ public final class PlaneEdgesTest {
         CHECK.sentence("tell: The BITS of WHAT of a body as a double; 1 for other numbers");
         Bench bench = new Bench(CHECK);
         bench.fill();
+        long[] before = bench.state();
         for (int wrong : Bench.outside(Bench.BODIES)) {
             CHECK.due("tell(" + wrong + ", 0)", bench.lab.tell(wrong, 0), 1);
             CHECK.due("tell(" + wrong + ", 5)", bench.lab.tell(wrong, 5), 1);
@@ -337,6 +343,7 @@ public final class PlaneEdgesTest {
             CHECK.due("tell(7, " + wrong + ")", bench.lab.tell(7, wrong), 1);
             CHECK.due("tell(-1, " + wrong + ")", bench.lab.tell(-1, wrong), 1);
         }
+        bench.unchanged("tell", before);
         bench.due(0, X, 1.5);
         bench.due(7, R, 1.5 + 7 + 5 * 16.25);
         bench.set(0, R, 0.1);
@@ -347,9 +354,11 @@ public final class PlaneEdgesTest {
         CHECK.sentence("about: The BITS of a number of the field as a double; 1 for another one");
         Bench bench = new Bench(CHECK);
         bench.fill();
+        long[] before = bench.state();
         for (int wrong : Bench.outside(Bench.FIELD_NUMBERS)) {
             CHECK.due("about(" + wrong + ")", bench.lab.about(wrong), 1);
         }
+        bench.unchanged("about", before);
         bench.fieldDue(GX, 0.25);
         bench.fieldDue(BACK, 5.25);
         bench.setField(BACK, 0.1);
@@ -1094,6 +1103,7 @@ public final class PlaneEdgesTest {
         CHECK.sentence("mean: 1 for other numbers");
         Bench bench = new Bench(CHECK);
         bench.fill();
+        long[] before = bench.state();
         for (int wrong : Bench.outside(Bench.BODY_NUMBERS)) {
             CHECK.due("mean(" + wrong + ", 0)", bench.lab.mean(wrong, 0), 1);
             CHECK.due("mean(" + wrong + ", 1)", bench.lab.mean(wrong, 1), 1);
@@ -1102,7 +1112,6 @@ public final class PlaneEdgesTest {
             CHECK.due("mean(0, " + wrong + ")", bench.lab.mean(0, wrong), 1);
             CHECK.due("mean(5, " + wrong + ")", bench.lab.mean(5, wrong), 1);
         }
-        long[] before = bench.state();
         for (int number = X; number <= R; number++) {
             CHECK.isTrue("mean(" + number + ", 0) is no 1", bench.lab.mean(number, 0) != 1);
             CHECK.due("mean(" + number + ", 1)", bench.lab.mean(number, 1), Reference.squares(told(bench, number)));
