@@ -8,6 +8,8 @@ final class Bench {
     static final int FLOAT_ADD = 8, FLOAT_SUBTRACT = 9, FLOAT_MULTIPLY = 10, FLOAT_DIVIDE = 11, FLOAT_REMAINDER = 12;
     static final int LESS = 13, GREATER = 14;
     static final int BODIES = 8, BODY_NUMBERS = 6, FIELD_NUMBERS = 6, STORES = 8;
+    // Where the parts of state() begin.
+    static final int FIELD_AT = BODIES * BODY_NUMBERS, STORES_AT = FIELD_AT + FIELD_NUMBERS, ENERGY_AT = STORES_AT + STORES;
 
     static final double INFINITE = Double.POSITIVE_INFINITY;
     static final double NONE = Double.NaN;
@@ -67,7 +69,7 @@ final class Bench {
 
     /** All that can be told, but the springs, which only the energy tells of. */
     long[] state() {
-        long[] state = new long[BODIES * BODY_NUMBERS + FIELD_NUMBERS + STORES + 1];
+        long[] state = new long[ENERGY_AT + 1];
         int n = 0;
         for (int body = 0; body < BODIES; body++) {
             for (int what = 0; what < BODY_NUMBERS; what++) {
@@ -85,7 +87,12 @@ final class Bench {
     }
 
     void unchanged(String call, long[] before) {
-        check.isTrue(call + " changes nothing", Arrays.equals(before, state()));
+        unchanged(call, before, 0, before.length);
+    }
+
+    /** Looks at a part of the state only. */
+    void unchanged(String call, long[] before, int from, int end) {
+        check.isTrue(call + " changes nothing", Arrays.equals(before, from, end, state(), from, end));
     }
 
     /** Gives every body, the field and every store a number of its own, and two springs. */

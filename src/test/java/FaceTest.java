@@ -27,7 +27,10 @@ public final class FaceTest {
         constants();
         members();
         classesInside();
-        text();
+        String code = code();
+        ruledOutWords(code);
+        rowsAreMadeOnce(code);
+        methodsAreShort(code);
         CHECK.end();
     }
 
@@ -91,13 +94,38 @@ public final class FaceTest {
         }
     }
 
-    private static void text() throws IOException {
+    private static String code() throws IOException {
         String text = Files.readString(Path.of("src/main/java/MotionLab.java"));
-        String code = text.replaceAll("(?s)/\\*.*?\\*/", " ").replaceAll("//[^\n]*", " ");
+        return text.replaceAll("(?s)/\\*.*?\\*/", " ").replaceAll("//[^\n]*", " ");
+    }
+
+    private static void ruledOutWords(String code) {
         for (String word : RULED_OUT) {
             boolean isWord = Character.isLetter(word.charAt(0));
             Pattern pattern = Pattern.compile(isWord ? "\\b" + word + "\\b" : Pattern.quote(word));
             CHECK.isTrue("no " + word + " in the program", !pattern.matcher(code).find());
+        }
+    }
+
+    // All calls of a run live in one room, so only what belongs to an object from the start is made.
+    private static void rowsAreMadeOnce(String code) {
+        for (String line : code.split("\n")) {
+            boolean isMaking = line.matches(".*\\bnew\\b.*");
+            CHECK.isTrue("made with the object: " + line, !isMaking || line.matches(" +(private )?final .* = new .*;"));
+        }
+    }
+
+    private static void methodsAreShort(String code) {
+        String[] lines = code.split("\n");
+        for (int start = 0; start < lines.length; start++) {
+            if (lines[start].matches(" +[a-zA-Z].*\\) \\{") && !lines[start].matches(" +(if|for|while|switch) .*")) {
+                String close = lines[start].replaceAll("\\S.*", "}");
+                int end = start;
+                while (end < lines.length && !lines[end].equals(close)) {
+                    end++;
+                }
+                CHECK.isTrue("at most sixty lines: " + lines[start], end - start < 60);
+            }
         }
     }
 }

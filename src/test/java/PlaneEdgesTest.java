@@ -675,6 +675,7 @@ public final class PlaneEdgesTest {
         wallBelowZero();
         wallThatIsNone();
         backAtTheEdge();
+        wallsOfACorner();
     }
 
     // A body that does not move in a STEP but may stand behind the wall: where it and its speed are then.
@@ -781,6 +782,27 @@ public final class PlaneEdgesTest {
         wallDue(2, Math.nextUp(0x1p-150), 5, 3, 2, -3 * 0x1p-149);
     }
 
+    private static void wallsOfACorner() {
+        CHECK.sentence("A STEP: likewise y, v: a body behind both walls of a corner is thrown back by both");
+        for (int signOfX = -1; signOfX <= 1; signOfX += 2) {
+            for (int signOfY = -1; signOfY <= 1; signOfY += 2) {
+                Bench bench = new Bench(CHECK);
+                bench.setField(DT, 0.5);
+                bench.setField(WALL, 2);
+                bench.setField(BACK, 0.25);
+                bench.set(4, X, signOfX * 2);
+                bench.set(4, Y, signOfY * 1.5);
+                bench.set(4, U, signOfX * 4);
+                bench.set(4, V, signOfY * 6);
+                bench.step(1);
+                bench.due(4, X, signOfX * 1.5);
+                bench.due(4, Y, signOfY * 1.375);
+                bench.due(4, U, signOfX * -1.0);
+                bench.due(4, V, signOfY * -1.5);
+            }
+        }
+    }
+
     private static void stepCollisions() {
         collidesNearerThanTheRadii();
         collidesNotInOnePlace();
@@ -792,6 +814,8 @@ public final class PlaneEdgesTest {
         collidesWithMassesOfFloats();
         collidesPairAfterPair();
         collidesAfterAllMoved();
+        collidesAfterAWall();
+        collidesAslant();
     }
 
     // Two bodies of mass 1 that stand dx apart, the first with a speed: what speeds they have after a STEP.
@@ -981,7 +1005,7 @@ public final class PlaneEdgesTest {
     }
 
     private static void collidesAfterAllMoved() {
-        CHECK.sentence("A STEP: Then for each i: after all bodies moved, and were thrown back");
+        CHECK.sentence("A STEP: Then for each i: after all bodies moved");
         Bench bench = rowOfThree();
         bench.setField(DT, 1);
         bench.set(1, X, 4);
@@ -992,6 +1016,50 @@ public final class PlaneEdgesTest {
         bench.due(0, U, 0);
         bench.due(1, X, 4);
         bench.due(1, U, 3.5);
+    }
+
+    private static void collidesAfterAWall() {
+        CHECK.sentence("A STEP: Then for each i: after the walls threw bodies back");
+        Bench bench = rowOfThree();
+        bench.setField(DT, 1);
+        bench.setField(WALL, 4);
+        bench.setField(BACK, 1);
+        bench.set(0, X, 3);
+        bench.set(0, U, 2);
+        bench.set(1, X, 2.5);
+        bench.set(2, X, -2);
+        for (int other = 3; other < Bench.BODIES; other++) {
+            bench.set(other, X, NONE);
+        }
+        bench.step(1);
+        // At 5, and so thrown back to 3 with -2, it meets the one at 2.5 and stops.
+        bench.due(0, X, 3);
+        bench.due(0, U, 0);
+        bench.due(1, X, 2.5);
+        bench.due(1, U, -2);
+        bench.due(2, U, 0);
+    }
+
+    private static void collidesAslant() {
+        CHECK.sentence("A STEP: ui = ui - t * mj * dx, vi = vi - t * mj * dy, uj = uj + t * mi * dx, vj = vj + t * mi * dy");
+        Bench bench = new Bench(CHECK);
+        bench.setField(DT, 0);
+        double[][] two = {{0, 0, 2, 11, 1, 3}, {3, 4, 4, -3, 3, 2.5}};
+        for (int what = X; what <= R; what++) {
+            bench.set(1, what, two[0][what]);
+            bench.set(6, what, two[1][what]);
+        }
+        for (int other : new int[] {0, 2, 3, 4, 5, 7}) {
+            bench.set(other, Y, 90);
+        }
+        bench.step(1);
+        // w is ((2 - 4) * 3 + (11 + 3) * 4) / 25, 2, and t is 2.0 * 2 / 4, 1.
+        bench.due(1, U, -7);
+        bench.due(1, V, -1);
+        bench.due(6, U, 7);
+        bench.due(6, V, 1);
+        bench.due(1, X, 0);
+        bench.due(6, Y, 4);
     }
 
     private static void promise14() {

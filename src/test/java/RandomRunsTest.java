@@ -1,6 +1,9 @@
 import java.util.Random;
 
-/** Long seeded runs, answer by answer beside the machine's own doubles and floats. */
+/**
+ * Seeded runs, answer by answer beside the machine's own doubles and floats. An object is used for
+ * no more than the 512 calls that the document promises.
+ */
 public final class RandomRunsTest {
     private static final long[] SPECIAL = {
         0L, 1L, 2L, Long.MIN_VALUE, Long.MIN_VALUE + 1, -1L, Long.MAX_VALUE,
@@ -15,14 +18,21 @@ public final class RandomRunsTest {
         Check.bits(-0x1p63), Check.bits(0x1.fffffffffffffp62), Check.bits(65535.9), Check.bits(-32769.0),
     };
 
+    private static final int MOST_CALLS = 512;
+    // The most calls of one round of a mixed run, and those that compare all that can be told.
+    private static final int CALLS_OF_ROUND = 10;
+    private static final int CALLS_OF_STATE = 10 * 8 + 8 + 3 * 10;
+
     private final Random random;
     private final Check check;
-    private MotionLab lab = new MotionLab();
-    private Reference reference = new Reference();
+    private MotionLab lab;
+    private Reference reference;
+    private int used;
 
     private RandomRunsTest(long seed, Check check) {
         this.random = new Random(seed);
         this.check = check;
+        start();
     }
 
     public static void main(String[] args) {
@@ -30,9 +40,9 @@ public final class RandomRunsTest {
         RandomRunsTest runs = new RandomRunsTest(20261115L, check);
         runs.reckonMuch(2_000_000);
         runs.castMuch(500_000);
-        for (int run = 0; run < 3_000 && !check.hasWrong(); run++) {
+        for (int run = 0; run < 9_000 && !check.hasWrong(); run++) {
             runs.start();
-            runs.mixedRun(200, run % 3);
+            runs.mixedRun(run % 3);
         }
         check.end();
     }
@@ -40,6 +50,19 @@ public final class RandomRunsTest {
     private void start() {
         lab = new MotionLab();
         reference = new Reference();
+        used = 0;
+    }
+
+    private boolean hasCalls(int more) {
+        return used + more <= MOST_CALLS;
+    }
+
+    private void due(String call, long got, long want) {
+        used++;
+        if (used > MOST_CALLS) {
+            check.isTrue("this test makes at most " + MOST_CALLS + " calls on an object", false);
+        }
+        check.due(call, got, want);
     }
 
     private long anyBits() {
@@ -95,38 +118,41 @@ public final class RandomRunsTest {
 
     private void reckonMuch(int times) {
         for (int i = 0; i < times && !check.hasWrong(); i++) {
+            if (!hasCalls(2 + 15 + 1)) {
+                start();
+            }
             long a = anyBits();
             long b = partner(a);
-            lab.keep(0, a);
-            lab.keep(1, b);
-            reference.keep(0, a);
-            reference.keep(1, b);
+            due("keep " + a, lab.keep(0, a), reference.keep(0, a));
+            due("keep " + b, lab.keep(1, b), reference.keep(1, b));
             for (int op = 0; op < 15; op++) {
-                check.due("reckon " + op + " of " + a + " and " + b,
+                due("reckon " + op + " of " + a + " and " + b,
                     lab.reckon(op, 2, 0, 1), reference.reckon(op, 2, 0, 1));
             }
-            check.due("compare " + a + " and " + b, lab.compare(0, 1), reference.compare(0, 1));
+            due("compare " + a + " and " + b, lab.compare(0, 1), reference.compare(0, 1));
         }
     }
 
     private void castMuch(int times) {
         for (int i = 0; i < times && !check.hasWrong(); i++) {
+            if (!hasCalls(2 + 7 + 1 + 2)) {
+                start();
+            }
             long a = anyBits();
             if (random.nextBoolean()) {
                 a = Check.bits(random.nextLong() / (double) (1L << random.nextInt(63)));
             }
-            lab.keep(3, a);
-            reference.keep(3, a);
-            check.due("single of " + a, lab.single(3), reference.single(3));
+            due("keep " + a, lab.keep(3, a), reference.keep(3, a));
+            due("single of " + a, lab.single(3), reference.single(3));
             for (int kind = -1; kind < 6; kind++) {
-                check.due("cast of " + a + " as " + kind, lab.cast(3, kind), reference.cast(3, kind));
+                due("cast of " + a + " as " + kind, lab.cast(3, kind), reference.cast(3, kind));
             }
             int f = random.nextInt() >> random.nextInt(32);
-            check.due("fromSingle of " + f, lab.fromSingle(4, f), reference.fromSingle(4, f));
+            due("fromSingle of " + f, lab.fromSingle(4, f), reference.fromSingle(4, f));
             long w = random.nextLong() >> random.nextInt(64);
             long wide = random.nextBoolean() ? w : w & (-1L << random.nextInt(60)) | random.nextInt(2);
             for (int kind = 0; kind < 2; kind++) {
-                check.due("whole of " + wide, lab.whole(5, kind, wide), reference.whole(5, kind, wide));
+                due("whole of " + wide, lab.whole(5, kind, wide), reference.whole(5, kind, wide));
             }
         }
     }
@@ -145,8 +171,8 @@ public final class RandomRunsTest {
         return isWild ? anyBits() : tameBits();
     }
 
-    private void mixedRun(int calls, int wildness) {
-        for (int call = 0; call < calls && !check.hasWrong(); call++) {
+    private void mixedRun(int wildness) {
+        while (hasCalls(CALLS_OF_ROUND + CALLS_OF_STATE) && !check.hasWrong()) {
             planeCall(wildness);
             storeCall(wildness);
         }
@@ -158,19 +184,19 @@ public final class RandomRunsTest {
         int b = index(6);
         long bits = numberBits(wildness);
         switch (random.nextInt(9)) {
-            case 0, 1, 2 -> check.due("body " + a + ", " + b + ", " + bits, lab.body(a, b, bits), reference.body(a, b, bits));
-            case 3 -> check.due("field " + b + ", " + bits, lab.field(b, bits), reference.field(b, bits));
+            case 0, 1, 2 -> due("body " + a + ", " + b + ", " + bits, lab.body(a, b, bits), reference.body(a, b, bits));
+            case 3 -> due("field " + b + ", " + bits, lab.field(b, bits), reference.field(b, bits));
             case 4, 5 -> springCall(a, wildness);
-            case 6 -> check.due("cut", lab.cut(), reference.cut());
+            case 6 -> due("cut", lab.cut(), reference.cut());
             case 7 -> {
                 int n = random.nextInt(10) == 0 ? random.nextInt(30) - 4 : random.nextInt(4);
-                check.due("step " + n, lab.step(n), reference.step(n));
-                comparePlanes();
+                due("step " + n, lab.step(n), reference.step(n));
+                compareRow(random.nextInt(6));
             }
             default -> {
                 int what = random.nextInt(8) == 0 ? random.nextInt(5) - 2 : random.nextInt(2);
-                check.due("mean " + b + ", " + what, lab.mean(b, what), reference.mean(b, what));
-                check.due("energy", lab.energy(), reference.energy());
+                due("mean " + b + ", " + what, lab.mean(b, what), reference.mean(b, what));
+                due("energy", lab.energy(), reference.energy());
             }
         }
     }
@@ -180,7 +206,7 @@ public final class RandomRunsTest {
         int k = floatBits(wildness);
         int l = floatBits(wildness);
         int c = floatBits(wildness);
-        check.due("spring " + i + ", " + j + ", " + k + ", " + l + ", " + c,
+        due("spring " + i + ", " + j + ", " + k + ", " + l + ", " + c,
             lab.spring(i, j, k, l, c), reference.spring(i, j, k, l, c));
     }
 
@@ -191,21 +217,27 @@ public final class RandomRunsTest {
         int op = index(15);
         long bits = numberBits(wildness);
         switch (random.nextInt(6)) {
-            case 0, 1 -> check.due("keep " + k + ", " + bits, lab.keep(k, bits), reference.keep(k, bits));
-            case 2 -> check.due("reckon " + op, lab.reckon(op, k, a, b), reference.reckon(op, k, a, b));
-            case 3 -> check.due("horner " + k, lab.horner(k), reference.horner(k));
+            case 0, 1 -> due("keep " + k + ", " + bits, lab.keep(k, bits), reference.keep(k, bits));
+            case 2 -> due("reckon " + op, lab.reckon(op, k, a, b), reference.reckon(op, k, a, b));
+            case 3 -> due("horner " + k, lab.horner(k), reference.horner(k));
             case 4 -> {
                 int kind = index(2);
-                check.due("whole " + k + ", " + kind + ", " + bits, lab.whole(k, kind, bits), reference.whole(k, kind, bits));
+                due("whole " + k + ", " + kind + ", " + bits, lab.whole(k, kind, bits), reference.whole(k, kind, bits));
             }
-            default -> check.due("fromSingle", lab.fromSingle(k, (int) bits), reference.fromSingle(k, (int) bits));
+            default -> due("fromSingle", lab.fromSingle(k, (int) bits), reference.fromSingle(k, (int) bits));
+        }
+    }
+
+    private void compareRow(int what) {
+        for (int body = 0; body < 8; body++) {
+            due("tell " + body + ", " + what, lab.tell(body, what), reference.tell(body, what));
         }
     }
 
     private void comparePlanes() {
         for (int body = -1; body <= 8; body++) {
             for (int what = -1; what <= 6; what++) {
-                check.due("tell " + body + ", " + what, lab.tell(body, what), reference.tell(body, what));
+                due("tell " + body + ", " + what, lab.tell(body, what), reference.tell(body, what));
             }
         }
     }
@@ -213,12 +245,12 @@ public final class RandomRunsTest {
     private void compareStates() {
         comparePlanes();
         for (int what = -1; what <= 6; what++) {
-            check.due("about " + what, lab.about(what), reference.about(what));
+            due("about " + what, lab.about(what), reference.about(what));
         }
         for (int k = -1; k <= 8; k++) {
-            check.due("single " + k, lab.single(k), reference.single(k));
-            check.due("cast " + k, lab.cast(k, 1), reference.cast(k, 1));
-            check.due("horner " + k, lab.horner(k), reference.horner(k));
+            due("single " + k, lab.single(k), reference.single(k));
+            due("cast " + k, lab.cast(k, 1), reference.cast(k, 1));
+            due("horner " + k, lab.horner(k), reference.horner(k));
         }
     }
 }
